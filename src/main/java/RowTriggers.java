@@ -59,7 +59,7 @@ public final class RowTriggers {
         if (now.rulesUsed >= RULE_ROOM) {
             throw new IllegalStateException("there are 8 rules");
         }
-        history.record(now);
+        history.keep(now);
         int rule = now.rulesUsed;
         now.rules[rule].start(event, column, least);
         now.rulesUsed++;
@@ -73,7 +73,7 @@ public final class RowTriggers {
                 || amount < -GREATEST_VALUE || amount > GREATEST_VALUE) {
             throw new IllegalArgumentException("action, row, column or amount is out of range");
         }
-        history.record(now);
+        history.keep(now);
         Rule changed = now.rules[rule];
         int previous = changed.action;
         changed.action = action;
@@ -85,7 +85,7 @@ public final class RowTriggers {
 
     public boolean turnMute(int rule) throws IndexOutOfBoundsException {
         checkRule(rule);
-        history.record(now);
+        history.keep(now);
         Rule changed = now.rules[rule];
         changed.muted = !changed.muted;
         return changed.muted;
@@ -93,7 +93,7 @@ public final class RowTriggers {
 
     public int dropRule(int rule) throws IndexOutOfBoundsException {
         checkRule(rule);
-        history.record(now);
+        history.keep(now);
         int acts = now.rules[rule].acts;
         now.takeRuleAway(rule);
         return acts;
@@ -103,7 +103,7 @@ public final class RowTriggers {
         if (depth < 0 || depth > GREATEST_DEPTH) {
             throw new IllegalArgumentException("depth is out of range");
         }
-        history.record(now);
+        history.keep(now);
         int previous = now.depth;
         now.depth = depth;
         return previous;
@@ -164,7 +164,7 @@ public final class RowTriggers {
         if (trial.refusal != POSSIBLE) {
             throw new IllegalStateException("the row does not allow it, or the statement is refused");
         }
-        history.record(now);
+        history.keep(now);
         now.copyFrom(trial.state);
         return trial.events;
     }
@@ -301,7 +301,7 @@ public final class RowTriggers {
         if (text.firstError() != NONE) {
             throw new IllegalStateException("the text has an error");
         }
-        history.record(now);
+        history.keep(now);
         int executed = 0;
         text.at = 0;
         while (executed < TEXT_ROOM && text.readCommand() && execute()) {
@@ -377,7 +377,7 @@ public final class RowTriggers {
         if (!slotIsFilled[slot]) {
             throw new IllegalStateException("nothing was saved in the slot");
         }
-        history.record(now);
+        history.keep(now);
         now.copyFrom(slots[slot]);
         return now.rowsThere();
     }
@@ -855,7 +855,7 @@ public final class RowTriggers {
             }
         }
 
-        void record(State state) {
+        void keep(State state) {
             states[next].copyFrom(state);
             next = (next + 1) % HISTORY_ROOM;
             size = Math.min(size + 1, HISTORY_ROOM);

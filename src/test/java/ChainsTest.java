@@ -101,6 +101,7 @@ public final class ChainsTest {
 
     /** Compares the reach of each rule, and the circular ones. */
     private static void told(RowTriggers x, String what, String reaches, int circular) {
+        Check.due("28: " + what, x::circularRules, circular);
         StringBuilder searched = new StringBuilder();
         StringBuilder looked = new StringBuilder();
         for (int rule = 0; rule < x.ruleCount(); rule++) {
@@ -109,7 +110,6 @@ public final class ChainsTest {
         }
         Check.same("26: " + what, searched.toString(), reaches);
         Check.same("27: " + what, looked.toString(), reaches);
-        Check.due("28: " + what, x::circularRules, circular);
     }
 
     private static void wrongRules() {

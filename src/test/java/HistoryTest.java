@@ -56,7 +56,7 @@ public final class HistoryTest {
             Check.due("34: five left after change " + number, x::undo, 5);
             Check.same("34: as it was ahead of change " + number, Check.pictureOf(x), before);
             Check.due("34: the depth, too, of change " + number, () -> x.whyNotUpdate(0, 0, 77), why);
-            x.update(1, 2, 3);
+            x.update(1, 2, 100 + number);
             number++;
         }
     }

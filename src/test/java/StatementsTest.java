@@ -330,6 +330,9 @@ public final class StatementsTest {
         Check.due("10: no row, so not too deep", () -> x.whyNotUpdate(0, 0, 1), 0);
         x.setAction(0, RowTriggers.TAKE, 0, 0, 0);
         Check.due("10: a TAKE too deep", () -> x.whyNotUpdate(0, 0, 1), 3);
+        x.setDepth(1);
+        Check.due("10: a TAKE not too deep", () -> x.whyNotUpdate(0, 0, 1), 0);
+        Check.due("12: a TAKE", () -> x.depthOfUpdate(0, 0, 1), 1);
     }
 
     private static void depthBeforeRule() {
