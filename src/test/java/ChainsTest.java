@@ -1,56 +1,9 @@
 /** Promises 25 to 28: which rules can set off which. */
 public final class ChainsTest {
     public static void main(String[] args) {
-        straightAway();
-        itself();
         chain();
         circle();
-        wrongRules();
         Check.end();
-    }
-
-    private static void straightAway() {
-        for (int action = 0; action < 4; action++) {
-            for (int column = 0; column < 3; column++) {
-                RowTriggers x = new RowTriggers();
-                x.addRule(RowTriggers.INSERT, 0, 999);
-                x.setAction(0, action, 0, column, 0);
-                for (int event = 0; event < 3; event++) {
-                    for (int watched = 0; watched < 3; watched++) {
-                        if (x.ruleCount() == 8) {
-                            x.dropRule(1);
-                        }
-                        int other = x.addRule(event, watched, 999);
-                        x.setAction(other, event == 0 ? 0 : 1, 0, 0, 0);
-                        boolean can = action == RowTriggers.ADD && event == RowTriggers.UPDATE && watched == column
-                                || action == RowTriggers.TAKE && event == RowTriggers.DELETE;
-                        String what = "action " + action + " on " + column + ", event " + event + " of " + watched;
-                        Check.due("25: " + what, x.canSetOff(0, other), can);
-                        Check.due("25: not back, " + what, x.canSetOff(other, 0), false);
-                        Check.due("26: " + what, (x.reachOf(0) & 1 << other) != 0, can);
-                        Check.due("27: " + what, (x.reachByTable(0) & 1 << other) != 0, can);
-                    }
-                }
-            }
-        }
-    }
-
-    private static void itself() {
-        RowTriggers x = new RowTriggers();
-        x.addRule(RowTriggers.UPDATE, 1, 999);
-        x.setAction(0, RowTriggers.ADD, 0, 1, 0);
-        Check.due("25: itself", x.canSetOff(0, 0), true);
-        told(x, "itself", "1", 1);
-        x.turnMute(0);
-        Check.due("25: itself, muted", x.canSetOff(0, 0), false);
-        told(x, "itself, muted", "0", 0);
-        x.turnMute(0);
-        x.setAction(0, RowTriggers.ADD, 0, 2, 0);
-        told(x, "not itself", "0", 0);
-        RowTriggers y = new RowTriggers();
-        y.addRule(RowTriggers.DELETE, 0, 0);
-        y.setAction(0, RowTriggers.TAKE, 0, 0, 0);
-        told(y, "TAKE itself", "1", 1);
     }
 
     private static void chain() {
@@ -100,7 +53,7 @@ public final class ChainsTest {
     }
 
     /** Compares the reach of each rule, and the circular ones. */
-    private static void told(RowTriggers x, String what, String reaches, int circular) {
+    static void told(RowTriggers x, String what, String reaches, int circular) {
         Check.due("28: " + what, x::circularRules, circular);
         StringBuilder searched = new StringBuilder();
         StringBuilder looked = new StringBuilder();
@@ -110,19 +63,5 @@ public final class ChainsTest {
         }
         Check.same("26: " + what, searched.toString(), reaches);
         Check.same("27: " + what, looked.toString(), reaches);
-    }
-
-    private static void wrongRules() {
-        RowTriggers x = new RowTriggers();
-        Check.due("28: no rules", x::circularRules, 0);
-        Check.fails("25: no rules", Check.INDEX, () -> Check.number(x.canSetOff(0, 0)));
-        x.addRule(0, 0, 0);
-        x.addRule(0, 0, 0);
-        for (int rule : new int[] {-1, 2, 8, Integer.MIN_VALUE, Integer.MAX_VALUE}) {
-            Check.failsAndKeeps(x, "25: rule " + rule, Check.INDEX, () -> Check.number(x.canSetOff(rule, 0)));
-            Check.failsAndKeeps(x, "25: other " + rule, Check.INDEX, () -> Check.number(x.canSetOff(0, rule)));
-            Check.failsAndKeeps(x, "26: rule " + rule, Check.INDEX, () -> x.reachOf(rule));
-            Check.failsAndKeeps(x, "27: rule " + rule, Check.INDEX, () -> x.reachByTable(rule));
-        }
     }
 }

@@ -4,6 +4,20 @@ final class Check {
         long answer();
     }
 
+    /** Makes an object, the same each time. */
+    interface Maker {
+        RowTriggers make();
+    }
+
+    interface CallOn {
+        long answer(RowTriggers x);
+    }
+
+    /** Tells something of an object; it may change the object, as nobody uses it afterwards. */
+    interface Probe {
+        String tell(RowTriggers x);
+    }
+
     static final String STATE = "IllegalStateException";
     static final String ARGUMENT = "IllegalArgumentException";
     static final String INDEX = "IndexOutOfBoundsException";
@@ -45,6 +59,12 @@ final class Check {
 
     static void fails(String what, String exception, Call call) {
         same(what, outcome(call), exception);
+    }
+
+    /** Numbers outside a range: the nearest ones, the farthest ones, and some that a narrower number would wrap around. */
+    static int[] outside(int least, int greatest) {
+        return java.util.stream.IntStream.of(least - 1, greatest + 1, Integer.MIN_VALUE, Integer.MAX_VALUE, least + 256,
+                least - 256, least + 65536, least - 65536, greatest + 65536).filter(n -> n < least || n > greatest).toArray();
     }
 
     /** A number for appendText out of up to 8 characters. */
@@ -91,11 +111,79 @@ final class Check {
         return pictureOf(x) + " undo " + x.undoCount() + " text " + x.textLength() + "/" + x.textError();
     }
 
-    /** A call that throws, and changes nothing. */
+    /** A call that throws, and changes nothing that the calls that change nothing tell of. */
     static void failsAndKeeps(RowTriggers x, String what, String exception, Call call) {
         String before = wholePictureOf(x);
         fails(what, exception, call);
         same(what + " changes nothing", wholePictureOf(x), before);
+    }
+
+    /**
+     * A call that throws, and changes nothing at all. Each look is taken at a new object, since a look may change
+     * it, and since an object is good for 512 calls alone.
+     */
+    static void refused(String what, String exception, Maker maker, CallOn call) {
+        Probe[] probes = {Check::wholePictureOf, Check::shortPictureOf, Check::pastOf, Check::slotsOf, Check::textOf, Check::doingsOf};
+        for (Probe probe : probes) {
+            RowTriggers x = maker.make();
+            fails(what, exception, () -> call.answer(x));
+            same(what + " changes nothing", probe.tell(x), probe.tell(maker.make()));
+        }
+    }
+
+    /** Looks that together tell all of a state. */
+    static Probe[] stateProbes() {
+        return new Probe[] {Check::pictureOf, Check::shortPictureOf, Check::doingsOf};
+    }
+
+    /** The rows, how many rules, events and acts there are, and the greatest depth: few calls tell them. */
+    private static String shortPictureOf(RowTriggers x) {
+        StringBuilder s = new StringBuilder();
+        for (int row = 0; row < 6; row++) {
+            s.append(x.hasRow(row) ? x.valueAt(row, 0) + "," + x.valueAt(row, 1) + "," + x.valueAt(row, 2) : "-").append(' ');
+        }
+        return s.append(x.ruleCount()).append(' ').append(x.eventCount()).append(' ').append(x.logSize()).append(' ')
+                .append(x.setDepth(0)).append('\n').toString();
+    }
+
+    /** The recorded states, from the latest one on. */
+    private static String pastOf(RowTriggers x) {
+        StringBuilder s = new StringBuilder();
+        while (x.undoCount() > 0) {
+            s.append(x.undo()).append(": ").append(shortPictureOf(x));
+            x.undo();
+        }
+        return s.toString();
+    }
+
+    private static String slotsOf(RowTriggers x) {
+        StringBuilder s = new StringBuilder();
+        for (int slot = 0; slot < 2; slot++) {
+            int number = slot;
+            s.append(outcome(() -> x.loadState(number))).append(": ").append(shortPictureOf(x));
+        }
+        return s.toString();
+    }
+
+    private static String textOf(RowTriggers x) {
+        return outcome(x::runText) + ": " + shortPictureOf(x);
+    }
+
+    /** What statements come to: this tells of the rules what no call tells. */
+    private static String doingsOf(RowTriggers x) {
+        StringBuilder s = new StringBuilder();
+        s.append(x.setDepth(5));
+        for (int row = 0; row < 6; row++) {
+            int number = row;
+            s.append(' ').append(outcome(() -> x.insert(number, 500, 400, 300)));
+            for (int column = 0; column < 3; column++) {
+                int place = column;
+                s.append(' ').append(outcome(() -> x.update(number, place, 7)));
+                s.append(' ').append(outcome(() -> x.update(number, place, 993)));
+            }
+            s.append(' ').append(outcome(() -> x.remove(number)));
+        }
+        return s.append(' ').append(pictureOf(x)).toString();
     }
 
     /** Ends a test. */

@@ -31,33 +31,27 @@ public final class HistoryTest {
     }
 
     private static void undoOfEachChange() {
-        List<Runnable> changes = new ArrayList<>();
-        RowTriggers x = full();
-        changes.add(() -> x.addRule(0, 0, 0));
-        changes.add(() -> x.setAction(0, RowTriggers.REFUSE, 0, 0, 0));
-        changes.add(() -> x.turnMute(0));
-        changes.add(() -> x.dropRule(0));
-        changes.add(() -> x.setDepth(0));
-        changes.add(() -> x.insert(2, 7, 7, 7));
-        changes.add(() -> x.update(0, 0, 5));
-        changes.add(() -> x.update(0, 0, 1));
-        changes.add(() -> x.remove(0));
-        changes.add(() -> {
-            Check.append(x, "r0");
-            x.runText();
-        });
-        changes.add(() -> x.loadState(0));
-        int number = 0;
-        for (Runnable change : changes) {
+        List<Check.CallOn> changes = new ArrayList<>();
+        changes.add(x -> x.addRule(0, 0, 0));
+        changes.add(x -> x.setAction(0, RowTriggers.REFUSE, 0, 0, 0));
+        changes.add(x -> Check.number(x.turnMute(0)));
+        changes.add(x -> x.dropRule(0));
+        changes.add(x -> x.setDepth(0));
+        changes.add(x -> x.insert(2, 7, 7, 7));
+        changes.add(x -> x.update(0, 0, 5));
+        changes.add(x -> x.update(0, 0, 1));
+        changes.add(x -> x.remove(0));
+        changes.add(x -> x.appendText(Check.packed("r0")) + x.runText());
+        changes.add(x -> x.loadState(0));
+        for (int i = 0; i < changes.size(); i++) {
+            RowTriggers x = full();
             String before = Check.pictureOf(x);
             int why = x.whyNotUpdate(0, 0, 77);
-            change.run();
-            Check.due("35: six after change " + number, x::undoCount, 6);
-            Check.due("34: five left after change " + number, x::undo, 5);
-            Check.same("34: as it was ahead of change " + number, Check.pictureOf(x), before);
-            Check.due("34: the depth, too, of change " + number, () -> x.whyNotUpdate(0, 0, 77), why);
-            x.update(1, 2, 100 + number);
-            number++;
+            changes.get(i).answer(x);
+            Check.due("35: six after change " + i, x::undoCount, 6);
+            Check.due("34: five left after change " + i, x::undo, 5);
+            Check.same("34: as it was ahead of change " + i, Check.pictureOf(x), before);
+            Check.due("34: the depth, too, of change " + i, () -> x.whyNotUpdate(0, 0, 77), why);
         }
     }
 
@@ -126,10 +120,6 @@ public final class HistoryTest {
 
     private static void slots() {
         RowTriggers x = new RowTriggers();
-        for (int slot : new int[] {-1, 2, Integer.MIN_VALUE, Integer.MAX_VALUE}) {
-            Check.failsAndKeeps(x, "36: slot " + slot, Check.INDEX, () -> x.saveState(slot));
-            Check.failsAndKeeps(x, "37: slot " + slot, Check.INDEX, () -> x.loadState(slot));
-        }
         Check.failsAndKeeps(x, "37: nothing in 0", Check.STATE, () -> x.loadState(0));
         Check.failsAndKeeps(x, "37: nothing in 1", Check.STATE, () -> x.loadState(1));
         Check.due("36: no rows", () -> x.saveState(1), 0);

@@ -1,13 +1,15 @@
 /** Long runs of calls, the same ones each time, on the program and on the model; each answer is compared. */
 public final class ModelTest {
-    private static final int RUNS = 4000;
-    private static final int CALLS = 512;
+    private static final int RUNS = 8000;
+    /** An object is good for 512 calls; the last step of a run may take some more than one. */
+    private static final int CALLS = 500;
 
     private long seed = 1;
     private final int kind;
     private final RowTriggers x = new RowTriggers();
     private final Model m = new Model();
     private final StringBuilder told = new StringBuilder();
+    private int calls = 0;
 
     private ModelTest(int run) {
         seed = run * 7919L + 1;
@@ -46,7 +48,7 @@ public final class ModelTest {
 
     private boolean run(int run) {
         prepare();
-        for (int call = told.toString().split("\n").length; call <= CALLS; call++) {
+        while (calls < CALLS) {
             if (!call()) {
                 System.out.println("run " + run + ":\n" + told);
                 return false;
@@ -87,6 +89,7 @@ public final class ModelTest {
 
     private boolean compare(String name, Check.Call mine, Check.Call due, int... arguments) {
         numbers = arguments;
+        calls++;
         String call = name + java.util.Arrays.toString(arguments);
         String got = Check.outcome(mine);
         String want = Check.outcome(due);

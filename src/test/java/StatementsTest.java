@@ -9,7 +9,6 @@ public final class StatementsTest {
         actions();
         orderOfActs();
         refusals();
-        depthOfEvents();
         hundredEvents();
         hundredAndFirstAndMore();
         sumFirst();
@@ -20,29 +19,17 @@ public final class StatementsTest {
 
     private static void insert() {
         RowTriggers x = new RowTriggers();
-        Check.failsAndKeeps(x, "7: row -1", Check.INDEX, () -> x.insert(-1, 0, 0, 0));
-        Check.failsAndKeeps(x, "7: row 6, and a value out of range", Check.INDEX, () -> x.insert(6, 1000, 0, 0));
-        Check.failsAndKeeps(x, "7: first", Check.ARGUMENT, () -> x.insert(0, -1, 0, 0));
-        Check.failsAndKeeps(x, "7: second", Check.ARGUMENT, () -> x.insert(0, 0, 1000, 0));
-        Check.failsAndKeeps(x, "7: third", Check.ARGUMENT, () -> x.insert(0, 0, 0, -1));
         Check.due("7: one event", () -> x.insert(5, 0, 999, 7), 1);
         Check.due("7: is a change", x::undoCount, 1);
         Check.due("7: first value", () -> x.valueAt(5, 0), 0);
         Check.due("7: second value", () -> x.valueAt(5, 1), 999);
         Check.due("7: third value", () -> x.valueAt(5, 2), 7);
         Check.failsAndKeeps(x, "7: it is there", Check.STATE, () -> x.insert(5, 1, 1, 1));
-        Check.failsAndKeeps(x, "7: it is there, and a value out of range", Check.ARGUMENT, () -> x.insert(5, 1, 1, 1000));
     }
 
     private static void update() {
         RowTriggers x = new RowTriggers();
         x.insert(0, 1, 2, 3);
-        Check.failsAndKeeps(x, "8: row 6", Check.INDEX, () -> x.update(6, 0, 1000));
-        Check.failsAndKeeps(x, "8: row -1", Check.INDEX, () -> x.update(-1, 0, 0));
-        Check.failsAndKeeps(x, "8: column 3", Check.INDEX, () -> x.update(0, 3, 1000));
-        Check.failsAndKeeps(x, "8: column -1", Check.INDEX, () -> x.update(1, -1, 0));
-        Check.failsAndKeeps(x, "8: value -1", Check.ARGUMENT, () -> x.update(1, 0, -1));
-        Check.failsAndKeeps(x, "8: value 1000", Check.ARGUMENT, () -> x.update(0, 0, 1000));
         Check.failsAndKeeps(x, "8: not there", Check.STATE, () -> x.update(1, 0, 0));
         Check.due("8: one event", () -> x.update(0, 1, 999), 1);
         Check.due("8: the value", () -> x.valueAt(0, 1), 999);
@@ -59,8 +46,6 @@ public final class StatementsTest {
     private static void remove() {
         RowTriggers x = new RowTriggers();
         x.insert(0, 1, 2, 3);
-        Check.failsAndKeeps(x, "9: row 6", Check.INDEX, () -> x.remove(6));
-        Check.failsAndKeeps(x, "9: row -1", Check.INDEX, () -> x.remove(-1));
         Check.failsAndKeeps(x, "9: not there", Check.STATE, () -> x.remove(1));
         Check.due("9: one event", () -> x.remove(0), 1);
         Check.due("9: is a change", x::undoCount, 2);
@@ -185,25 +170,6 @@ public final class StatementsTest {
         Check.due("11: no change", () -> x.eventsOfUpdate(1, 0, 3), 0);
         Check.due("12: no event has no depth", () -> x.depthOfUpdate(1, 0, 3), -1);
         Check.failsAndKeeps(x, "an event that follows is refused, so all is", Check.STATE, () -> x.insert(0, 0, 0, 0));
-        wrongArguments(x);
-    }
-
-    private static void wrongArguments(RowTriggers x) {
-        for (int row : new int[] {-1, 6, Integer.MIN_VALUE, Integer.MAX_VALUE}) {
-            Check.failsAndKeeps(x, "10: row", Check.INDEX, () -> x.whyNotUpdate(row, 0, 1000));
-            Check.failsAndKeeps(x, "11: row", Check.INDEX, () -> x.eventsOfUpdate(row, 0, 1000));
-            Check.failsAndKeeps(x, "12: row", Check.INDEX, () -> x.depthOfUpdate(row, 0, 1000));
-        }
-        for (int column : new int[] {-1, 3, Integer.MIN_VALUE, Integer.MAX_VALUE}) {
-            Check.failsAndKeeps(x, "10: column", Check.INDEX, () -> x.whyNotUpdate(0, column, -1));
-            Check.failsAndKeeps(x, "11: column", Check.INDEX, () -> x.eventsOfUpdate(0, column, -1));
-            Check.failsAndKeeps(x, "12: column", Check.INDEX, () -> x.depthOfUpdate(0, column, -1));
-        }
-        for (int value : new int[] {-1, 1000, Integer.MIN_VALUE, Integer.MAX_VALUE}) {
-            Check.failsAndKeeps(x, "10: value", Check.ARGUMENT, () -> x.whyNotUpdate(0, 0, value));
-            Check.failsAndKeeps(x, "11: value", Check.ARGUMENT, () -> x.eventsOfUpdate(0, 0, value));
-            Check.failsAndKeeps(x, "12: value", Check.ARGUMENT, () -> x.depthOfUpdate(0, 0, value));
-        }
     }
 
     /** Row after row: each update of a row makes one of the next row, a depth deeper. */
@@ -217,24 +183,6 @@ public final class StatementsTest {
             x.setAction(row - 1, RowTriggers.ADD, row, 0, 1);
         }
         return x;
-    }
-
-    private static void depthOfEvents() {
-        RowTriggers x = staircase();
-        for (int depth = 0; depth <= 5; depth++) {
-            int greatest = depth;
-            x.setDepth(greatest);
-            for (int row = 0; row < 6; row++) {
-                int from = row;
-                int deepest = 5 - row;
-                boolean possible = deepest <= depth;
-                Check.due("10: depth " + deepest + " of " + depth, () -> x.whyNotUpdate(from, 0, 930 - 100 * from),
-                        possible ? 0 : 3);
-                Check.due("12: depth " + deepest + " of " + depth, () -> x.depthOfUpdate(from, 0, 930 - 100 * from),
-                        possible ? deepest : -1);
-            }
-        }
-        Check.due("8: all of it", () -> x.update(2, 0, 730), x.eventsOfUpdate(2, 0, 730));
     }
 
     /** Rows 0 to 5 stand in bands of values; a rule adds to a row when a row above it changes. */

@@ -2,11 +2,9 @@
 public final class TableTest {
     public static void main(String[] args) {
         table();
-        wrongPlaces();
         rules();
         events();
         log();
-        longLog();
         Check.end();
     }
 
@@ -38,21 +36,6 @@ public final class TableTest {
         Check.due("these are no changes", x::undoCount, 6);
     }
 
-    private static void wrongPlaces() {
-        RowTriggers x = new RowTriggers();
-        x.insert(1, 0, 0, 0);
-        for (int row : new int[] {-1, 6, Integer.MIN_VALUE, Integer.MAX_VALUE}) {
-            Check.failsAndKeeps(x, "13: row " + row, Check.INDEX, () -> Check.number(x.hasRow(row)));
-            Check.failsAndKeeps(x, "15: row " + row, Check.INDEX, () -> x.valueAt(row, 0));
-        }
-        for (int column : new int[] {-1, 3, Integer.MIN_VALUE, Integer.MAX_VALUE}) {
-            Check.failsAndKeeps(x, "15: column " + column, Check.INDEX, () -> x.valueAt(1, column));
-            Check.failsAndKeeps(x, "15: no row, and column " + column, Check.INDEX, () -> x.valueAt(0, column));
-            Check.failsAndKeeps(x, "16: column " + column, Check.INDEX, () -> x.sumOf(column));
-        }
-        Check.failsAndKeeps(x, "15: no row", Check.STATE, () -> x.valueAt(0, 0));
-    }
-
     private static void rules() {
         RowTriggers x = new RowTriggers();
         x.addRule(0, 0, 0);
@@ -68,11 +51,6 @@ public final class TableTest {
         x.insert(1, 0, 0, 0);
         Check.due("20: of rule 0", () -> x.actsOf(0), 2);
         Check.due("20: of rule 1", () -> x.actsOf(1), 0);
-        for (int rule : new int[] {-1, 2, 8, Integer.MIN_VALUE, Integer.MAX_VALUE}) {
-            Check.failsAndKeeps(x, "18: rule " + rule, Check.INDEX, () -> x.actionOf(rule));
-            Check.failsAndKeeps(x, "19: rule " + rule, Check.INDEX, () -> Check.number(x.isMuted(rule)));
-            Check.failsAndKeeps(x, "20: rule " + rule, Check.INDEX, () -> x.actsOf(rule));
-        }
     }
 
     private static void events() {
@@ -109,32 +87,5 @@ public final class TableTest {
         Check.due("23: the one before", () -> x.loggedRule(1), 1);
         Check.due("24: the latest", () -> x.loggedDepth(0), 1);
         Check.due("24: the one before", () -> x.loggedDepth(1), 0);
-        for (int ago : new int[] {-1, 2, 16, Integer.MIN_VALUE, Integer.MAX_VALUE}) {
-            Check.failsAndKeeps(x, "23: ago " + ago, Check.INDEX, () -> x.loggedRule(ago));
-            Check.failsAndKeeps(x, "24: ago " + ago, Check.INDEX, () -> x.loggedDepth(ago));
-        }
-    }
-
-    private static void longLog() {
-        RowTriggers x = new RowTriggers();
-        x.addRule(RowTriggers.UPDATE, 1, 0);
-        x.addRule(RowTriggers.UPDATE, 0, 0);
-        x.setAction(1, RowTriggers.ADD, 0, 1, 1);
-        x.insert(0, 0, 0, 0);
-        for (int i = 1; i <= 11; i++) {
-            x.update(0, 0, i);
-            int size = Math.min(2 * i, 16);
-            Check.due("22: after " + i, x::logSize, size);
-            for (int ago = 0; ago < size; ago++) {
-                int a = ago;
-                Check.due("23: after " + i + ", ago " + a, () -> x.loggedRule(a), a % 2);
-                Check.due("24: after " + i + ", ago " + a, () -> x.loggedDepth(a), 1 - a % 2);
-            }
-            Check.fails("23: after " + i, Check.INDEX, () -> x.loggedRule(size));
-        }
-        x.update(0, 1, 100);
-        Check.due("22: still 16", x::logSize, 16);
-        Check.same("24: the odd one", x.loggedDepth(0) + " " + x.loggedDepth(1) + " " + x.loggedDepth(15), "0 1 1");
-        Check.due("20: all acts count", () -> x.actsOf(0), 12);
     }
 }

@@ -2,7 +2,6 @@
 public final class TextTest {
     public static void main(String[] args) {
         appendText();
-        wrongCharacters();
         fullText();
         clearText();
         correctTexts();
@@ -24,19 +23,6 @@ public final class TextTest {
         Check.due("33: in the order of the characters", x::runText, 2);
         Check.due("29: the values", () -> x.valueAt(0, 0) * 1000000 + x.valueAt(0, 1) * 1000 + x.valueAt(0, 2), 12003456);
         Check.due("29: least and greatest code", () -> x.appendText(33 << 8 | 126), 2);
-    }
-
-    private static void wrongCharacters() {
-        RowTriggers x = new RowTriggers();
-        x.appendText(Check.packed("r1"));
-        long[] wrong = {0, 32, 127, 128, 255, 256, -1, Long.MIN_VALUE, Long.MAX_VALUE, 'a' << 8, 'a' << 16 | 'b',
-            (long) 'a' << 56 | 'b', 32 << 8 | 'a', 127 << 8 | 'a', 'a' << 8 | 32, 'a' << 8 | 127, 1L << 63 | 'a',
-            Check.packed("abcdefg") | 0x80L << 56, Check.packed("abcdefg") | 0x20L << 56,
-            Check.packed("abcdefg") | 0xffL << 56, 1L << 16 | 'a', 0x6100000000000061L, 0x100000000L};
-        for (long characters : wrong) {
-            Check.failsAndKeeps(x, "29: " + Long.toHexString(characters), Check.ARGUMENT, () -> x.appendText(characters));
-        }
-        Check.due("29: eight great codes", () -> x.appendText(0x7e7e7e7e7e7e7e7eL), 10);
     }
 
     private static void fullText() {
