@@ -316,7 +316,7 @@ public final class StatementsEdgesTest {
 
     /** "NONE if it would not be possible": for each reason; "NONE if it would make none" */
     private static void noneIfNotPossible() {
-        RowTriggers x = falling(80);
+        RowTriggers x = StatementsTest.falling(80, 70);
         Check.due("11: the 101st event", () -> x.eventsOfUpdate(0, 0, 950), RowTriggers.NONE);
         Check.due("12: the 101st event", () -> x.depthOfUpdate(0, 0, 950), RowTriggers.NONE);
         RowTriggers y = adding(1, 0);
@@ -486,7 +486,7 @@ public final class StatementsEdgesTest {
         taken.setAction(0, RowTriggers.TAKE, 1, 0, 0);
         Check.due("9: a DELETE makes another one", () -> taken.remove(0), 2);
         Check.same("24: depths of DELETEs", depthsOf(taken), "10");
-        RowTriggers stairs = staircase();
+        RowTriggers stairs = StatementsTest.staircase();
         stairs.setDepth(5);
         stairs.update(0, 0, 930);
         Check.same("24: down the stairs", depthsOf(stairs), "0101210121232101");
@@ -500,27 +500,14 @@ public final class StatementsEdgesTest {
         return s.toString();
     }
 
-    /** Each update of a row makes one of each row below it: the farther up, the deeper, and twice as many a step. */
-    private static RowTriggers staircase() {
-        RowTriggers x = new RowTriggers();
-        for (int row = 0; row < 6; row++) {
-            x.insert(row, 900 - 100 * row, 0, 0);
-        }
-        for (int row = 1; row < 6; row++) {
-            x.addRule(RowTriggers.UPDATE, 0, 950 - 100 * row);
-            x.setAction(row - 1, RowTriggers.ADD, row, 0, 1);
-        }
-        return x;
-    }
-
     /** "An event of a greater depth than the greatest one, 0 to 5, 3 at first, is refused" */
     private static void greaterThanTheGreatest() {
-        RowTriggers first = staircase();
+        RowTriggers first = StatementsTest.staircase();
         Check.due("10: 3 at first, so 4 is too deep", () -> first.whyNotUpdate(1, 0, 830), 3);
         Check.due("12: 3 at first, so 3 is not", () -> first.depthOfUpdate(2, 0, 730), 3);
         for (int greatest = 0; greatest <= 5; greatest++) {
             for (int row = 0; row < 6; row++) {
-                RowTriggers x = staircase();
+                RowTriggers x = StatementsTest.staircase();
                 x.setDepth(greatest);
                 int deepest = 5 - row;
                 boolean possible = deepest <= greatest;
@@ -548,33 +535,14 @@ public final class StatementsEdgesTest {
         Check.due("9: the depth 0 is never too great", () -> x.remove(0), 1);
     }
 
-    /**
-     * Rows in bands of values; each UPDATE from 900 on makes two in the band below, and so on down to row 4; row 5
-     * changes as often as row 4 stands at the least value that is given, or above it.
-     */
-    private static RowTriggers falling(int leastForLast) {
-        RowTriggers x = new RowTriggers();
-        int[] values = {900, 800, 600, 400, 100, 70};
-        for (int row = 0; row < 6; row++) {
-            x.insert(row, values[row], 0, 0);
-        }
-        x.setDepth(5);
-        int[][] rules = {{900, 1}, {900, 1}, {700, 2}, {700, 2}, {500, 3}, {500, 3}, {300, 4}, {leastForLast, 5}};
-        for (int[] rule : rules) {
-            int number = x.addRule(RowTriggers.UPDATE, 0, rule[0]);
-            x.setAction(number, RowTriggers.ADD, rule[1], 0, -1);
-        }
-        return x;
-    }
-
     /** "so is the 101st event of a statement" */
     private static void hundredEvents() {
-        told("99 events", falling(82), 0, 0, 950, 0, 99, 5);
-        told("100 events", falling(81), 0, 0, 950, 0, 100, 5);
-        told("the 101st event", falling(80), 0, 0, 950, 4, -1, -1);
-        told("and still more", falling(79), 0, 0, 950, 4, -1, -1);
-        Check.refused("8: the 101st event", Check.STATE, () -> falling(80), x -> x.update(0, 0, 950));
-        RowTriggers x = falling(81);
+        told("99 events", StatementsTest.falling(82, 70), 0, 0, 950, 0, 99, 5);
+        told("100 events", StatementsTest.falling(81, 70), 0, 0, 950, 0, 100, 5);
+        told("the 101st event", StatementsTest.falling(80, 70), 0, 0, 950, 4, -1, -1);
+        told("and still more", StatementsTest.falling(79, 70), 0, 0, 950, 4, -1, -1);
+        Check.refused("8: the 101st event", Check.STATE, () -> StatementsTest.falling(80, 70), x -> x.update(0, 0, 950));
+        RowTriggers x = StatementsTest.falling(81, 70);
         Check.due("8: 100 events", () -> x.update(0, 0, 950), 100);
         Check.due("21: all are counted", x::eventCount, 106);
         Check.due("8: a hundred does not bind the next statement", () -> x.update(0, 1, 950), 1);
@@ -631,7 +599,7 @@ public final class StatementsEdgesTest {
 
     /** Stairs with a rule at their foot that refuses. */
     private static RowTriggers refusedLate() {
-        RowTriggers x = staircase();
+        RowTriggers x = StatementsTest.staircase();
         x.setDepth(5);
         x.addRule(RowTriggers.UPDATE, 1, 0);
         x.addRule(RowTriggers.UPDATE, 0, 401);

@@ -7,9 +7,7 @@ public final class StatementsTest {
         matching();
         matchingIsToldByTheEvent();
         actions();
-        orderOfActs();
         refusals();
-        hundredEvents();
         hundredAndFirstAndMore();
         sumFirst();
         depthBeforeRule();
@@ -134,20 +132,6 @@ public final class StatementsTest {
         Check.due("and all are in the log", x::logSize, 7);
     }
 
-    /** What follows from an act is finished before the next rule acts. */
-    private static void orderOfActs() {
-        RowTriggers x = new RowTriggers();
-        x.addRule(RowTriggers.UPDATE, 2, 0);
-        x.addRule(RowTriggers.UPDATE, 0, 0);
-        x.setAction(1, RowTriggers.ADD, 0, 1, 1);
-        x.addRule(RowTriggers.UPDATE, 1, 0);
-        x.setAction(2, RowTriggers.ADD, 0, 2, 1);
-        x.addRule(RowTriggers.UPDATE, 0, 0);
-        x.insert(0, 0, 0, 0);
-        Check.due("a chain", () -> x.update(0, 0, 1), 3);
-        Check.same("the log of the chain", Check.pictureOf(x).replaceAll(".* log ", ""), "3@0 0@2 2@1 1@0");
-    }
-
     private static void refusals() {
         RowTriggers x = new RowTriggers();
         x.addRule(RowTriggers.UPDATE, 0, 0);
@@ -172,8 +156,8 @@ public final class StatementsTest {
         Check.failsAndKeeps(x, "an event that follows is refused, so all is", Check.STATE, () -> x.insert(0, 0, 0, 0));
     }
 
-    /** Row after row: each update of a row makes one of the next row, a depth deeper. */
-    private static RowTriggers staircase() {
+    /** Each update of a row makes one of each row below it: the farther up, the deeper, and twice as many a step. */
+    static RowTriggers staircase() {
         RowTriggers x = new RowTriggers();
         for (int row = 0; row < 6; row++) {
             x.insert(row, 900 - 100 * row, 0, 0);
@@ -200,24 +184,10 @@ public final class StatementsTest {
     }
 
     /** As many events as eight rules can make in bands, less those that row 4 no longer sets off. */
-    private static RowTriggers falling(int leastForLast, int lastValue) {
+    static RowTriggers falling(int leastForLast, int lastValue) {
         return bands(new int[] {100, lastValue}, new int[][] {
             {900, 1, -1}, {900, 1, -1}, {700, 2, -1}, {700, 2, -1}, {500, 3, -1}, {500, 3, -1},
             {300, 4, -1}, {leastForLast, 5, -1}});
-    }
-
-    private static void hundredEvents() {
-        RowTriggers x = falling(81, 70);
-        Check.due("10: 100 events", () -> x.whyNotUpdate(0, 0, 950), 0);
-        Check.due("11: 100 events", () -> x.eventsOfUpdate(0, 0, 950), 100);
-        Check.due("12: 100 events", () -> x.depthOfUpdate(0, 0, 950), 5);
-        Check.due("8: 100 events", () -> x.update(0, 0, 950), 100);
-        Check.due("21: 100 events", x::eventCount, 106);
-        RowTriggers y = falling(80, 70);
-        Check.due("10: the 101st event", () -> y.whyNotUpdate(0, 0, 950), 4);
-        Check.due("11: the 101st event", () -> y.eventsOfUpdate(0, 0, 950), -1);
-        Check.due("12: the 101st event", () -> y.depthOfUpdate(0, 0, 950), -1);
-        Check.failsAndKeeps(y, "8: the 101st event", Check.STATE, () -> y.update(0, 0, 950));
     }
 
     private static void hundredAndFirstAndMore() {
